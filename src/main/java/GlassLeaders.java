@@ -63,7 +63,7 @@ public final class GlassLeaders {
     private final LandReader landReader = new LandReader(text);
     private final LawReader lawReader = new LawReader(text);
     private final Scene plain = new Scene();
-    private final Scene other = new Scene();
+    private final Scene tried = new Scene();
     private final Table whole = new Table(true);
     private final Table rough = new Table(false);
     private final Solver solver = new Solver();
@@ -238,9 +238,9 @@ public final class GlassLeaders {
     public long alone(int person) throws IndexOutOfBoundsException, IllegalStateException {
         needLand();
         needPerson(person);
-        other.loadAlone(land, party, person);
-        solver.sweep(other, rough);
-        return atStart(rough, other, person);
+        tried.loadAlone(land, party, person);
+        solver.sweep(tried, rough);
+        return atStart(rough, tried, person);
     }
 
     public int run(int seed) throws IllegalStateException {
@@ -292,8 +292,8 @@ public final class GlassLeaders {
     public int proof(int person) throws IndexOutOfBoundsException, IllegalStateException {
         needLand();
         needPerson(person);
-        other.loadAlone(land, party, person);
-        solver.sweep(other, whole);
+        tried.loadAlone(land, party, person);
+        solver.sweep(tried, whole);
         solved = false;
         return walker.proveRows(party, person);
     }
@@ -339,19 +339,19 @@ public final class GlassLeaders {
     public int order(int person) throws IndexOutOfBoundsException, IllegalStateException {
         needLand();
         needPersonOrNone(person);
-        other.load(land, party);
+        tried.load(land, party);
         int best = NONE;
         long most = 0;
         boolean more = true;
         for (int i = 0; i < ROUNDS && more; i++) {
-            other.lead(land, party, party.days);
-            solver.sweep(other, rough);
-            long worth = atStart(rough, other, person);
+            tried.lead(land, party, party.days);
+            solver.sweep(tried, rough);
+            long worth = atStart(rough, tried, person);
             if (best == NONE || worth > most) {
-                best = other.roundDigits(land.persons);
+                best = tried.roundDigits(land.persons);
                 most = worth;
             }
-            more = other.nextRound(land.persons);
+            more = tried.nextRound(land.persons);
         }
         return best;
     }
@@ -359,13 +359,13 @@ public final class GlassLeaders {
     public int length(int person) throws IndexOutOfBoundsException, IllegalStateException {
         needLand();
         needPersonOrNone(person);
-        other.load(land, party);
+        tried.load(land, party);
         int best = NONE;
         long most = 0;
         for (int days = 1; days <= LONGEST_TURN; days++) {
-            other.lead(land, party, days);
-            solver.sweep(other, rough);
-            long worth = atStart(rough, other, person);
+            tried.lead(land, party, days);
+            solver.sweep(tried, rough);
+            long worth = atStart(rough, tried, person);
             if (best == NONE || worth > most) {
                 best = days;
                 most = worth;
@@ -425,8 +425,8 @@ public final class GlassLeaders {
         needLand();
         needPerson(person);
         solve();
-        other.loadAlone(land, party, person);
-        solver.sweep(other, rough);
+        tried.loadAlone(land, party, person);
+        solver.sweep(tried, rough);
         return gain(person);
     }
 
@@ -486,9 +486,9 @@ public final class GlassLeaders {
         needPersonOrNone(person);
         needElement(rule >= 0 && rule < law.rules);
         solve();
-        other.load(land, party);
-        other.skip = rule;
-        solver.sweep(other, rough);
+        tried.load(land, party);
+        tried.skip = rule;
+        solver.sweep(tried, rough);
         return gain(person);
     }
 
@@ -515,19 +515,19 @@ public final class GlassLeaders {
 
     public long vote() throws IllegalStateException {
         needLand();
-        other.load(land, party);
-        Arrays.fill(other.kinds, VOTED);
-        solver.sweep(other, rough);
-        return atStart(rough, other, NONE);
+        tried.load(land, party);
+        Arrays.fill(tried.kinds, VOTED);
+        solver.sweep(tried, rough);
+        return atStart(rough, tried, NONE);
     }
 
     public int needs() throws IllegalStateException {
         needLand();
-        other.load(land, party);
+        tried.load(land, party);
         for (int store = 1; store <= MOST_STORE; store++) {
-            other.store = store;
-            solver.sweep(other, rough);
-            if (rough.cells[startCell(rough, other) + CHANCE_THERE] == land.scales[0]) {
+            tried.store = store;
+            solver.sweep(tried, rough);
+            if (rough.cells[startCell(rough, tried) + CHANCE_THERE] == land.scales[0]) {
                 return store;
             }
         }
@@ -648,35 +648,35 @@ public final class GlassLeaders {
 
     /* What was tried out last, less as it is. */
     private long gain(int person) {
-        return atStart(rough, other, person) - atStart(whole, plain, person);
+        return atStart(rough, tried, person) - atStart(whole, plain, person);
     }
 
     private void tryHour(int hour, int person) {
-        other.load(land, party);
-        other.leads[hour] = person;
-        solver.sweep(other, rough);
+        tried.load(land, party);
+        tried.leads[hour] = person;
+        solver.sweep(tried, rough);
     }
 
     private void trySwap(int one, int two) {
-        other.load(land, party);
-        other.leads[one] = plain.leads[two];
-        other.leads[two] = plain.leads[one];
-        solver.sweep(other, rough);
+        tried.load(land, party);
+        tried.leads[one] = plain.leads[two];
+        tried.leads[two] = plain.leads[one];
+        solver.sweep(tried, rough);
     }
 
     private void tryPact(int one, int two) {
-        other.load(land, party);
-        other.kinds[one] = PACT;
-        other.kinds[two] = PACT;
-        other.pactColumns = 1 << WORTH + one | 1 << WORTH + two;
-        solver.sweep(other, rough);
+        tried.load(land, party);
+        tried.kinds[one] = PACT;
+        tried.kinds[two] = PACT;
+        tried.pactColumns = 1 << WORTH + one | 1 << WORTH + two;
+        solver.sweep(tried, rough);
     }
 
     private long asKind(int person, int kind) {
-        other.load(land, party);
-        other.kinds[person] = kind;
-        solver.sweep(other, rough);
-        return atStart(rough, other, person);
+        tried.load(land, party);
+        tried.kinds[person] = kind;
+        solver.sweep(tried, rough);
+        return atStart(rough, tried, person);
     }
 
     /** The tape, and its words, numbers and signs from the left, with the first fault met. */
@@ -720,31 +720,18 @@ public final class GlassLeaders {
                 begin++;
             }
             after = begin;
-            if (begin >= limit) {
-                sort = CLOSE;
-            } else if (isDigit(bytes[begin])) {
-                readNumber();
-            } else if (isLetter(bytes[begin])) {
-                readWord();
-            } else {
-                sort = SIGN;
-                after = begin + 1;
-            }
-        }
-
-        private void readNumber() {
-            sort = NUMBER;
             number = 0;
             while (after < limit && isDigit(bytes[after])) {
                 number = Math.min(HUGE, number * 10 + bytes[after] - '0');
                 after++;
             }
-        }
-
-        private void readWord() {
-            sort = WORD;
-            while (after < limit && isLetter(bytes[after])) {
+            sort = after > begin ? NUMBER : WORD;
+            while (sort == WORD && after < limit && isLetter(bytes[after])) {
                 after++;
+            }
+            if (after == begin) {
+                sort = begin < limit ? SIGN : CLOSE;
+                after = begin < limit ? begin + 1 : begin;
             }
         }
 
@@ -1699,7 +1686,8 @@ public final class GlassLeaders {
         /* What the move that was aimed at is worth, by chances, in these columns together. */
         long expected(int columns) {
             long sum = 0;
-            for (int column = 0; column < COLUMNS; column++) {
+            int first = Integer.numberOfTrailingZeros(columns);
+            for (int column = first; column < COLUMNS && columns >> column != 0; column++) {
                 if ((columns >> column & 1) != 0) {
                     sum += stayShare * table.cells[staySpot * COLUMNS + column]
                             + goShare * table.cells[goSpot * COLUMNS + column];
@@ -1805,7 +1793,7 @@ public final class GlassLeaders {
             int column = 1 << WORTH + person;
             int place = land.start;
             int stores = land.store;
-            for (int hour = 0; land.fateOf(place, hour, stores) == GOING; hour++) {
+            for (int hour = 0; hour < land.hours && land.fateOf(place, hour, stores) == GOING; hour++) {
                 int mask = solver.lawful(person, place, hour, stores, NONE);
                 int told = hour < party.rowCount ? party.rows[hour] : 0;
                 int move = (mask >> told & 1) != 0 ? told : 0;
