@@ -19,6 +19,7 @@ public final class GlassLeaders {
     private static final int DAY = 24;
     private static final int ROUNDS = 120;
     private static final int LEVELS = MOST_STORE + 1;
+    private static final int ALL_LEVELS = (1 << LEVELS) - 1;
     private static final int LAYER = MOST_PLACES * LEVELS;
 
     private static final int FAULT_STANDS = 1;
@@ -239,7 +240,7 @@ public final class GlassLeaders {
         needLand();
         needPerson(person);
         tried.loadAlone(land, party, person);
-        solver.sweep(tried, rough);
+        solver.sweep(tried, rough, land.hours);
         return atStart(rough, tried, person);
     }
 
@@ -293,7 +294,7 @@ public final class GlassLeaders {
         needLand();
         needPerson(person);
         tried.loadAlone(land, party, person);
-        solver.sweep(tried, whole);
+        solver.sweep(tried, whole, land.hours);
         solved = false;
         return walker.proveRows(party, person);
     }
@@ -345,7 +346,7 @@ public final class GlassLeaders {
         boolean more = true;
         for (int i = 0; i < ROUNDS && more; i++) {
             tried.lead(land, party, party.days);
-            solver.sweep(tried, rough);
+            solver.sweep(tried, rough, land.hours);
             long worth = atStart(rough, tried, person);
             if (best == NONE || worth > most) {
                 best = tried.roundDigits(land.persons);
@@ -364,7 +365,7 @@ public final class GlassLeaders {
         long most = 0;
         for (int days = 1; days <= LONGEST_TURN; days++) {
             tried.lead(land, party, days);
-            solver.sweep(tried, rough);
+            solver.sweep(tried, rough, land.hours);
             long worth = atStart(rough, tried, person);
             if (best == NONE || worth > most) {
                 best = days;
@@ -426,7 +427,7 @@ public final class GlassLeaders {
         needPerson(person);
         solve();
         tried.loadAlone(land, party, person);
-        solver.sweep(tried, rough);
+        solver.sweep(tried, rough, land.hours);
         return gain(person);
     }
 
@@ -488,7 +489,7 @@ public final class GlassLeaders {
         solve();
         tried.load(land, party);
         tried.skip = rule;
-        solver.sweep(tried, rough);
+        solver.sweep(tried, rough, land.hours);
         return gain(person);
     }
 
@@ -517,7 +518,7 @@ public final class GlassLeaders {
         needLand();
         tried.load(land, party);
         Arrays.fill(tried.kinds, VOTED);
-        solver.sweep(tried, rough);
+        solver.sweep(tried, rough, land.hours);
         return atStart(rough, tried, NONE);
     }
 
@@ -526,7 +527,7 @@ public final class GlassLeaders {
         tried.load(land, party);
         for (int store = 1; store <= MOST_STORE; store++) {
             tried.store = store;
-            solver.sweep(tried, rough);
+            solver.sweep(tried, rough, land.hours);
             if (rough.cells[startCell(rough, tried) + CHANCE_THERE] == land.scales[0]) {
                 return store;
             }
@@ -618,14 +619,14 @@ public final class GlassLeaders {
     private void settle() {
         solver.land = land;
         solver.law = law;
-        solver.forgetMasks();
+        solver.forgetWork();
         solved = false;
     }
 
     private void solve() {
         if (!solved) {
             plain.load(land, party);
-            solver.sweep(plain, whole);
+            solver.sweep(plain, whole, land.hours);
             solved = true;
         }
     }
@@ -654,14 +655,17 @@ public final class GlassLeaders {
     private void tryHour(int hour, int person) {
         tried.load(land, party);
         tried.leads[hour] = person;
-        solver.sweep(tried, rough);
+        rough.keep(whole, hour + 1);
+        solver.sweep(tried, rough, hour);
     }
 
     private void trySwap(int one, int two) {
         tried.load(land, party);
         tried.leads[one] = plain.leads[two];
         tried.leads[two] = plain.leads[one];
-        solver.sweep(tried, rough);
+        int last = Math.max(one, two);
+        rough.keep(whole, last + 1);
+        solver.sweep(tried, rough, last);
     }
 
     private void tryPact(int one, int two) {
@@ -669,13 +673,13 @@ public final class GlassLeaders {
         tried.kinds[one] = PACT;
         tried.kinds[two] = PACT;
         tried.pactColumns = 1 << WORTH + one | 1 << WORTH + two;
-        solver.sweep(tried, rough);
+        solver.sweep(tried, rough, land.hours);
     }
 
     private long asKind(int person, int kind) {
         tried.load(land, party);
         tried.kinds[person] = kind;
-        solver.sweep(tried, rough);
+        solver.sweep(tried, rough, land.hours);
         return atStart(rough, tried, person);
     }
 
@@ -792,6 +796,8 @@ public final class GlassLeaders {
         final int[] cost = new int[MOST_PERSONS];
         final int[] wish = new int[MOST_PERSONS * MOST_PLACES];
         final long[] scales = new long[DAY + 1];
+        /* By place and way: the place at which the way comes out; NONE, if it is not at the place. */
+        final int[] across = new int[MOST_PLACES * MOST_WAYS];
         int places = 0;
         int ways = 0;
         int persons = 0;
@@ -818,6 +824,11 @@ public final class GlassLeaders {
             for (int hour = hours - 1; hour >= 0; hour--) {
                 scales[hour] = scales[hour + 1] * shares(hour);
             }
+            Arrays.fill(across, NONE);
+            for (int way = 0; way < ways; way++) {
+                across[oneEnd[way] * MOST_WAYS + way] = otherEnd[way];
+                across[otherEnd[way] * MOST_WAYS + way] = oneEnd[way];
+            }
         }
 
         /* Into how many shares chance cuts an hour. */
@@ -835,14 +846,6 @@ public final class GlassLeaders {
 
         int snowOf(int way, int hour) {
             return snows[way * DAY + hour];
-        }
-
-        /* The place at which a way comes out; NONE, if it is not at the place. */
-        int across(int way, int place) {
-            if (oneEnd[way] == place) {
-                return otherEnd[way];
-            }
-            return otherEnd[way] == place ? oneEnd[way] : NONE;
         }
 
         int storesAfter(int place, int stores, int store) {
@@ -1469,6 +1472,12 @@ public final class GlassLeaders {
             int layer = isWhole ? hour : hour & 1;
             return layer * LAYER + place * LEVELS + stores;
         }
+
+        /* An hour as in another table: where all that follows is the same, it is not worked again. */
+        void keep(Table from, int hour) {
+            int there = from.spot(0, hour, 0) * COLUMNS;
+            System.arraycopy(from.cells, there, cells, spot(0, hour, 0) * COLUMNS, LAYER * COLUMNS);
+        }
     }
 
     /** Works a scene's table from the last hour back. */
@@ -1481,15 +1490,23 @@ public final class GlassLeaders {
         private final int[] masks = new int[MOST_PERSONS * DAY * LAYER];
         /* By hour and place: the stores with which they may be there, as bits. */
         private final int[] reach = new int[(DAY + 1) * MOST_PLACES];
+        /* The store by which the reach was marked; NONE: it was not yet. */
+        private int reachStore = NONE;
         private final int[] votes = new int[MOST_WAYS + 1];
-        /* Where the move that is looked at leads to: staying, or at the other place. */
+        /* The state that is looked at, and into how many shares chance cuts its hour. */
+        private int herePlace = 0;
+        private int hereHour = 0;
+        private int hereStores = 0;
+        private int shares = 1;
+        /* Where the move that is aimed at leads to: staying, or at the other place. */
         int staySpot = 0;
         int goSpot = 0;
         int stayShare = 0;
         int goShare = 0;
 
-        void forgetMasks() {
+        void forgetWork() {
             Arrays.fill(masks, 0);
+            reachStore = NONE;
         }
 
         void look(Scene newScene, Table newTable) {
@@ -1514,7 +1531,7 @@ public final class GlassLeaders {
             facts[Law.SNOW] = 0;
             int mask = law.permits(Law.RESTING, skip) ? 1 : 0;
             for (int way = 0; way < land.ways; way++) {
-                int to = land.across(way, place);
+                int to = land.across[place * MOST_WAYS + way];
                 if (to == NONE) {
                     continue;
                 }
@@ -1531,16 +1548,16 @@ public final class GlassLeaders {
             return mask;
         }
 
-        void sweep(Scene newScene, Table newTable) {
+        /* Works the hours from the last one on back; those behind it stand in the table already. */
+        void sweep(Scene newScene, Table newTable, int last) {
             look(newScene, newTable);
-            if (table.isWhole) {
-                Arrays.fill(reach, (1 << LEVELS) - 1);
-            } else {
+            if (!table.isWhole && reachStore != scene.store) {
                 markReach();
+                reachStore = scene.store;
             }
-            for (int hour = land.hours; hour >= 0; hour--) {
+            for (int hour = last; hour >= 0; hour--) {
                 for (int place = 0; place < land.places; place++) {
-                    int bits = reach[hour * MOST_PLACES + place];
+                    int bits = table.isWhole ? ALL_LEVELS : reach[hour * MOST_PLACES + place];
                     for (int stores = 0; stores <= scene.store; stores++) {
                         if ((bits >> stores & 1) != 0) {
                             fillState(place, hour, stores);
@@ -1562,7 +1579,7 @@ public final class GlassLeaders {
                     }
                     markAfter(place, hour + 1, stores);
                     for (int way = 0; way < land.ways; way++) {
-                        int to = land.across(way, place);
+                        int to = land.across[place * MOST_WAYS + way];
                         if (to != NONE) {
                             markAfter(to, hour + 1, stores);
                         }
@@ -1582,20 +1599,23 @@ public final class GlassLeaders {
                 fillEnded(spot, place, hour, fate);
                 return;
             }
+            stand(place, hour, stores);
             for (int person = 0; person < land.persons; person++) {
                 int kind = scene.kinds[person];
                 if (kind == OWN || kind == BLIND) {
-                    fillDream(person, place, hour, stores);
+                    fillDream(spot, person);
                 }
             }
             int leader = scene.leads[hour];
             int mask = lawful(leader, place, hour, stores, scene.skip);
-            int move = scene.kinds[leader] == VOTED
-                    ? mostVoted(place, hour, stores, mask) : picked(place, hour, stores, mask);
+            int move = scene.kinds[leader] == VOTED ? mostVoted(mask) : picked(leader, mask);
             table.moves[spot] = move;
-            aim(place, hour, stores, move);
+            aim(move);
+            long[] cells = table.cells;
+            int stay = staySpot * COLUMNS;
+            int go = goSpot * COLUMNS;
             for (int column = 0; column < WORTH + land.persons; column++) {
-                table.cells[spot * COLUMNS + column] = expected(1 << column);
+                cells[spot * COLUMNS + column] = stayShare * cells[stay + column] + goShare * cells[go + column];
             }
         }
 
@@ -1613,34 +1633,33 @@ public final class GlassLeaders {
         }
 
         /* What one dreams of: that he leads alone (OWN), or that others do their worst to him (BLIND). */
-        private void fillDream(int person, int place, int hour, int stores) {
-            int leader = scene.kinds[person] == OWN ? person : scene.leads[hour];
+        private void fillDream(int spot, int person) {
+            int leader = scene.kinds[person] == OWN ? person : scene.leads[hereHour];
             int sign = leader == person ? 1 : -1;
             int column = DREAM + person;
-            int mask = lawful(leader, place, hour, stores, scene.skip);
-            int move = bestMove(place, hour, stores, mask, 1 << column, sign);
-            aim(place, hour, stores, move);
-            table.cells[table.spot(place, hour, stores) * COLUMNS + column] = expected(1 << column);
+            int mask = lawful(leader, herePlace, hereHour, hereStores, scene.skip);
+            aim(bestMove(mask, 1 << column, sign));
+            table.cells[spot * COLUMNS + column] = expected(1 << column);
         }
 
-        private int picked(int place, int hour, int stores, int mask) {
-            int leader = scene.leads[hour];
+        private int picked(int leader, int mask) {
             int first = Integer.numberOfTrailingZeros(mask);
+            int planned = scene.plan[hereHour];
             switch (scene.kinds[leader]) {
                 case OWN:
-                case BLIND: return bestMove(place, hour, stores, mask, 1 << DREAM + leader, 1);
-                case KIND: return bestMove(place, hour, stores, mask, (1 << land.persons) - 1 << WORTH, 1);
-                case PACT: return bestMove(place, hour, stores, mask, scene.pactColumns, 1);
+                case BLIND: return bestMove(mask, 1 << DREAM + leader, 1);
+                case KIND: return bestMove(mask, (1 << land.persons) - 1 << WORTH, 1);
+                case PACT: return bestMove(mask, scene.pactColumns, 1);
                 case SPEND: return first;
-                case PLANNED: return (mask >> scene.plan[hour] & 1) != 0 ? scene.plan[hour] : first;
-                default: return bestMove(place, hour, stores, mask, 1 << WORTH + leader, 1);
+                case PLANNED: return (mask >> planned & 1) != 0 ? planned : first;
+                default: return bestMove(mask, 1 << WORTH + leader, 1);
             }
         }
 
-        private int mostVoted(int place, int hour, int stores, int mask) {
+        private int mostVoted(int mask) {
             Arrays.fill(votes, 0);
             for (int person = 0; person < land.persons; person++) {
-                votes[bestMove(place, hour, stores, mask, 1 << WORTH + person, 1)]++;
+                votes[bestMove(mask, 1 << WORTH + person, 1)]++;
             }
             int best = 0;
             for (int move = 1; move <= land.ways; move++) {
@@ -1652,33 +1671,40 @@ public final class GlassLeaders {
         }
 
         /* Of moves the first of the greatest sum of columns (sign -1: of the least). */
-        int bestMove(int place, int hour, int stores, int mask, int columns, int sign) {
-            int best = NONE;
+        int bestMove(int mask, int columns, int sign) {
+            int moves = Integer.bitCount(mask);
+            int best = moves == 0 ? 0 : Integer.numberOfTrailingZeros(mask);
+            int left = mask;
             long most = 0;
-            for (int move = 0; move <= land.ways; move++) {
-                if ((mask >> move & 1) == 0) {
-                    continue;
-                }
-                aim(place, hour, stores, move);
+            for (int i = 0; i < moves && moves > 1; i++) {
+                int move = Integer.numberOfTrailingZeros(left);
+                left &= left - 1;
+                aim(move);
                 long worth = sign * expected(columns);
-                if (best == NONE || worth > most) {
+                if (i == 0 || worth > most) {
                     best = move;
                     most = worth;
                 }
             }
-            return best == NONE ? 0 : best;
+            return best;
         }
 
-        void aim(int place, int hour, int stores, int move) {
-            int shares = land.shares(hour);
+        void stand(int place, int hour, int stores) {
+            herePlace = place;
+            hereHour = hour;
+            hereStores = stores;
+            shares = land.shares(hour);
             staySpot = table.spot(place, hour + 1, land.storesAfter(place, stores, scene.store));
+        }
+
+        void aim(int move) {
             goSpot = staySpot;
             stayShare = shares;
             goShare = 0;
-            int to = move < 1 ? NONE : land.across(move - 1, place);
+            int to = move < 1 ? NONE : land.across[herePlace * MOST_WAYS + move - 1];
             if (to != NONE) {
-                goSpot = table.spot(to, hour + 1, land.storesAfter(to, stores, scene.store));
-                stayShare = land.snowOf(move - 1, hour);
+                goSpot = table.spot(to, hereHour + 1, land.storesAfter(to, hereStores, scene.store));
+                stayShare = land.snowOf(move - 1, hereHour);
                 goShare = shares - stayShare;
             }
         }
@@ -1720,7 +1746,7 @@ public final class GlassLeaders {
 
         /* Where a move leads when no way is closed. */
         private int placeAfter(int place, int move) {
-            int to = move < 1 ? NONE : solver.land.across(move - 1, place);
+            int to = move < 1 ? NONE : solver.land.across[place * MOST_WAYS + move - 1];
             return to == NONE ? place : to;
         }
 
@@ -1797,10 +1823,10 @@ public final class GlassLeaders {
                 int mask = solver.lawful(person, place, hour, stores, NONE);
                 int told = hour < party.rowCount ? party.rows[hour] : 0;
                 int move = (mask >> told & 1) != 0 ? told : 0;
-                int best = solver.bestMove(place, hour, stores, mask, column, 1);
-                solver.aim(place, hour, stores, best);
+                solver.stand(place, hour, stores);
+                solver.aim(solver.bestMove(mask, column, 1));
                 long most = solver.expected(column);
-                solver.aim(place, hour, stores, move);
+                solver.aim(move);
                 if (most > solver.expected(column)) {
                     return hour;
                 }
@@ -1878,9 +1904,10 @@ public final class GlassLeaders {
                     if (mask == 0) {
                         continue;
                     }
-                    int first = solver.bestMove(place, hour, stores, mask, 1 << WORTH, 1);
+                    solver.stand(place, hour, stores);
+                    int first = solver.bestMove(mask, 1 << WORTH, 1);
                     for (int person = 1; person < land.persons; person++) {
-                        if (solver.bestMove(place, hour, stores, mask, 1 << WORTH + person, 1) != first) {
+                        if (solver.bestMove(mask, 1 << WORTH + person, 1) != first) {
                             return false;
                         }
                     }
@@ -1917,7 +1944,8 @@ public final class GlassLeaders {
                 arrivals[hour * FATES + fate] += amount;
                 return;
             }
-            solver.aim(place, hour, stores, solver.table.moves[spot]);
+            solver.stand(place, hour, stores);
+            solver.aim(solver.table.moves[spot]);
             long share = solver.land.shares(hour) == 16 ? amount >> 4 : amount;
             flow[solver.staySpot] += share * solver.stayShare;
             flow[solver.goSpot] += share * solver.goShare;
