@@ -181,6 +181,60 @@ public final class GlassLeadersLimits {
         return sum + g.arrives(24, 2) + g.scale(24);
     }
 
+    /** Questions change nothing: each answers the same first of all, and behind any other one. */
+    private static void questionsOneAfterTheOther() {
+        List<Method> questions = new ArrayList<>();
+        List<String> changing = List.of("feed", "land", "law", "kind", "plan", "turn", "days", "row", "clear",
+                "image", "on", "run", "status");
+        for (Method m : face()) {
+            if (!changing.contains(m.getName())) {
+                questions.add(m);
+            }
+        }
+        for (Method second : questions) {
+            String alone = call(asking(), second, argumentsOf(second));
+            for (Method first : questions) {
+                GlassLeaders g = asking();
+                call(g, first, argumentsOf(first));
+                if (!call(g, second, argumentsOf(second)).equals(alone)) {
+                    wrong++;
+                    System.out.println(second.getName() + " answers otherwise behind " + first.getName());
+                }
+                g.kind(1, 0);
+                g.kind(1, 2);
+                if (!call(g, second, argumentsOf(second)).equals(alone)) {
+                    wrong++;
+                    System.out.println(second.getName() + " answers otherwise behind a change");
+                }
+            }
+        }
+    }
+
+    private static Object[] argumentsOf(Method m) {
+        Object[] arguments = new Object[m.getParameterCount()];
+        for (int i = 0; i < arguments.length; i++) {
+            arguments[i] = i == 1 && m.getName().matches("pact|swap|hour") ? 1 : 0;
+        }
+        if (m.getName().matches("next|takes|trap|force|ever") || m.getName().equals("value")) {
+            arguments[arguments.length - 1] = 3;
+        }
+        return arguments;
+    }
+
+    private static GlassLeaders asking() {
+        GlassLeaders g = new GlassLeaders();
+        String land = "place;place;place;place end;way 0 1;way 1 2;way 1 3;person 0;person 0;person 1;wants 0 0 3;"
+                + "wants 1 0 3;wants 1 2 10;wants 0 3 8;wants 1 3 8;wants 2 3 9;hours 4;store 3;snow 0 0 1 4;";
+        feed(g, land);
+        g.land(land.length());
+        String law = "go if not to=2 or leader=1;rest if hour<3;";
+        feed(g, law);
+        g.law(law.length());
+        g.kind(1, 2);
+        g.row(1);
+        return g;
+    }
+
     private static void theFace() {
         due("methods of the face", face().length, 50);
         due("constructors", GlassLeaders.class.getConstructors().length, 1);
@@ -189,6 +243,7 @@ public final class GlassLeadersLimits {
 
     public static void main(String[] args) {
         theFace();
+        questionsOneAfterTheOther();
         for (int seed = 0; seed < 200; seed++) {
             due("the same calls, seed " + seed, anyCalls(seed).equals(anyCalls(seed)) ? 1 : 0, 1);
         }

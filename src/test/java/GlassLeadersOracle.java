@@ -528,7 +528,7 @@ public final class GlassLeadersOracle {
     static String makeLand(World w, Random r, boolean big) {
         Pen pen = new Pen(r);
         int places = 2 + r.nextInt(big ? 8 : 4);
-        int persons = 1 + r.nextInt(big ? 5 : 4);
+        int persons = 1 + r.nextInt(big || r.nextInt(4) == 0 ? 5 : 4);
         int count = 1 + r.nextInt(big ? 12 : 7);
         // in a lively land all is joined, none begins at an end, and each wants much
         boolean lively = r.nextInt(3) > 0;
@@ -978,6 +978,8 @@ public final class GlassLeadersOracle {
         }
     }
 
+    static final GlassLeaders used = new GlassLeaders();
+
     static void compare(int seed) {
         Random r = new Random(seed * 0x9E3779B97F4A7C15L + 77);
         World w = new World();
@@ -987,7 +989,8 @@ public final class GlassLeadersOracle {
             return;
         }
         about = "seed " + seed + " [" + land + "] [" + law + "] ";
-        GlassLeaders g = new GlassLeaders();
+        // one object sees many lands: nothing of an earlier one may be left
+        GlassLeaders g = seed % 3 == 0 ? new GlassLeaders() : used;
         feed(g, land);
         same("land", g.land(land.length()), w.sorts.size());
         feed(g, law);

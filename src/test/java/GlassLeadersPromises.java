@@ -647,6 +647,13 @@ public final class GlassLeadersPromises {
         refuses(g, "length, no such person", 0, () -> g.length(2));
         refuses(g, "length, below NONE", 0, () -> g.length(-2));
         due("nothing is changed", g.days(1), 1);
+        String chain = "place;person 0;person 0;" + "place;".repeat(10) + "place end;";
+        for (int i = 0; i < 11; i++) {
+            chain += "way " + i + " " + (i + 1) + ";";
+        }
+        chain += "wants 0 11 9;lost 9;";
+        due("as long as can be", of(chain + "hours 24;", "go if leader=0 and hour>0;").length(0), 12);
+        due("one less will not do", of(chain + "hours 24;", "go if leader=0;").length(0), 11);
         due("a late turn",
                 of("place;person 0;person 0;place end;way 0 1;wants 0 1 5;hours 24;store 12;lost 9;",
                         "go if leader=1 and hour>10;").length(0), 1);
@@ -874,6 +881,35 @@ public final class GlassLeadersPromises {
         due("value with it", v.value(0, 0, 0, 3), -3);
         v.on();
         due("value without", v.value(0, 0, 0, 3), 9);
+        GlassLeaders far = of("place hut;place;person 0;way 0 1;hours 24;");
+        far.kind(0, 3);
+        far.plan(23, 1);
+        far.turn(23, 0);
+        for (int i = 0; i < 24; i++) {
+            far.row(1);
+        }
+        due("24 hours", far.run(0), 24);
+        due("the image of them", far.image(), 1);
+        far.kind(0, 5);
+        for (int i = 0; i < 24; i++) {
+            far.plan(i, 1);
+            far.turn(i, 0);
+        }
+        far.clear();
+        far.row(0);
+        due("otherwise", far.run(0), 24);
+        due("not at the hut", far.was(23, 0), 1);
+        far.on();
+        due("the last place", far.was(24, 0), 0);
+        due("the last stores", far.was(24, 1), 12);
+        due("the last but one place", far.was(23, 0), 0);
+        due("the last move", far.was(23, 2), 0);
+        due("the last plan", far.plan(23, 0), 1);
+        due("the last but one plan", far.plan(22, 0), 0);
+        due("the last turn", far.turn(23, -1), 0);
+        due("the last but one turn", far.turn(22, -1), -1);
+        due("all rows", far.count(0), 24);
+        due("as they were", far.judge(), -1);
         GlassLeaders n = new GlassLeaders();
         due("an image without a land", n.image(), 1);
         n.days(4);
