@@ -1485,7 +1485,7 @@ public final class GlassLeaders {
         Land land = null;
         Law law = null;
         private Scene scene = null;
-        private Table table = null;
+        Table table = null;
         /* Lawful moves of each leader in each state by the whole law; 0: not worked yet. */
         private final int[] masks = new int[MOST_PERSONS * DAY * LAYER];
         /* By hour and place: the stores with which they may be there, as bits. */
@@ -1643,7 +1643,7 @@ public final class GlassLeaders {
         }
 
         private int picked(int leader, int mask) {
-            int first = Integer.numberOfTrailingZeros(mask);
+            int first = lowest(mask);
             int planned = scene.plan[hereHour];
             switch (scene.kinds[leader]) {
                 case OWN:
@@ -1670,14 +1670,19 @@ public final class GlassLeaders {
             return best;
         }
 
+        /* The number of the lowest bit that is set. */
+        private static int lowest(int bits) {
+            return Integer.bitCount((bits & -bits) - 1);
+        }
+
         /* Of moves the first of the greatest sum of columns (sign -1: of the least). */
         int bestMove(int mask, int columns, int sign) {
             int moves = Integer.bitCount(mask);
-            int best = moves == 0 ? 0 : Integer.numberOfTrailingZeros(mask);
+            int best = moves == 0 ? 0 : lowest(mask);
             int left = mask;
             long most = 0;
             for (int i = 0; i < moves && moves > 1; i++) {
-                int move = Integer.numberOfTrailingZeros(left);
+                int move = lowest(left);
                 left &= left - 1;
                 aim(move);
                 long worth = sign * expected(columns);
@@ -1712,7 +1717,7 @@ public final class GlassLeaders {
         /* What the move that was aimed at is worth, by chances, in these columns together. */
         long expected(int columns) {
             long sum = 0;
-            int first = Integer.numberOfTrailingZeros(columns);
+            int first = lowest(columns);
             for (int column = first; column < COLUMNS && columns >> column != 0; column++) {
                 if ((columns >> column & 1) != 0) {
                     sum += stayShare * table.cells[staySpot * COLUMNS + column]
