@@ -592,6 +592,7 @@ public final class GlassLeadersPromises {
         GlassLeaders g = of(DARE);
         promise = 27;
         due("hour 0 to 1", g.hour(1, 0), 7);
+        due("hour, first of all", of(DARE).hour(0, 1), 5);
         due("hour 1 to 0", g.hour(0, 1), 5);
         due("his own", g.hour(0, 0), 0);
         refuses(g, "hour at hours", 2, () -> g.hour(0, 2));
@@ -599,9 +600,11 @@ public final class GlassLeadersPromises {
         refuses(g, "no such person", 0, () -> g.hour(2, 2));
         promise = 28;
         due("give", g.give(), 10);
+        due("give, first of all", of(DARE).give(), 10);
         due("none", of(SMALL).give(), -1);
         promise = 29;
         due("price of hour 0", g.price(0, 1), 4);
+        due("price, first of all", of(DARE).price(1, 0), 10);
         due("price of hour 1", g.price(1, 0), 10);
         due("to himself", g.price(1, 1), 0);
         refuses(g, "price, hour at hours", 2, () -> g.price(2, 0));
@@ -614,6 +617,9 @@ public final class GlassLeadersPromises {
         refuses(g, "one", 2, () -> g.swap(1, 1));
         refuses(g, "no such person", 0, () -> g.swap(2, 2));
         refuses(g, "no such other", 0, () -> g.swap(0, 2));
+        refuses(g, "no such one", 0, () -> g.swap(2, 0));
+        refuses(g, "no one below 0", 0, () -> g.swap(-1, 0));
+        due("first of all", of(DARE).swap(0, 1), 1);
         GlassLeaders wasted = of("place;place end;way 0 1;person 0;person 0;wants 0 1 5;wants 1 1 5;hours 1;store 2;");
         wasted.kind(0, 3);
         promise = 28;
@@ -769,8 +775,11 @@ public final class GlassLeadersPromises {
         refuses(g, "what -1", 2, () -> g.pact(0, 1, -1));
         refuses(g, "no such person", 0, () -> g.pact(2, 2, 2));
         refuses(g, "no such other", 0, () -> g.pact(0, -1, 0));
+        refuses(g, "no such one", 0, () -> g.pact(2, 0, 0));
+        due("first of all", of(DARE).pact(0, 1, 1), 5);
         promise = 40;
         due("holds", g.holds(), 1);
+        due("holds, first of all", of(DARE).holds(), 1);
         due("none", of(SMALL).holds(), -1);
         GlassLeaders t = of("place;place;place;place;way 0 1;way 1 2;way 1 3;person 0;person 0;person 0;"
                 + "wants 1 0 3;wants 2 0 3;wants 2 2 10;wants 1 3 8;wants 2 3 8;hours 2;");
@@ -866,6 +875,7 @@ public final class GlassLeadersPromises {
         due("ended", g.ended(), 1);
         due("where", g.was(1, 0), 1);
         due("the journey's move", g.was(0, 2), 1);
+        due("as long as it was", g.was(2, 0), -1);
         due("the law stays", g.told(8), 1);
         due("the tape stays", g.count(2), 20);
         due("status stays", g.status(2), 1);
@@ -903,13 +913,15 @@ public final class GlassLeadersPromises {
         due("the last place", far.was(24, 0), 0);
         due("the last stores", far.was(24, 1), 12);
         due("the last but one place", far.was(23, 0), 0);
+        due("the last but one stores", far.was(23, 1), 12);
         due("the last move", far.was(23, 2), 0);
         due("the last plan", far.plan(23, 0), 1);
         due("the last but one plan", far.plan(22, 0), 0);
         due("the last turn", far.turn(23, -1), 0);
         due("the last but one turn", far.turn(22, -1), -1);
         due("all rows", far.count(0), 24);
-        due("as they were", far.judge(), -1);
+        tell(far, "rest if 1=2;");
+        due("all of them going", far.judge(), -1);
         GlassLeaders n = new GlassLeaders();
         due("an image without a land", n.image(), 1);
         n.days(4);

@@ -54,6 +54,12 @@ public final class GlassLeadersTexts {
     private static void whatCannotStand() {
         land("placehut;person 0;", -9, 0);
         land("pl ace;person 0;", -9, 0);
+        land("placez;person 0;", -9, 0);
+        land("placea;person 0;", -9, 0);
+        land("place`;person 0;", -9, 5);
+        land("place{;person 0;", -9, 5);
+        land("place;person 0/;", -9, 14);
+        land("place;person 0:;", -9, 14);
         land("Place;person 0;", -9, 0);
         land(";place;person 0;", -9, 0);
         land("place;;person 0;", -9, 6);
@@ -114,6 +120,7 @@ public final class GlassLeadersTexts {
         land(two + "snow 0 24 24 1;", -8, 36);
         land(two + "snow 0 0 24 1;", -8, 38);
         land(two + "snow 0 5 4 1;", -8, 38);
+        land(two + "snow 0 23 24 1;", -8, 39);
         land(two + "snow 0 5 5 0;", -8, 40);
         land(two + "snow 0 5 5 17;", -8, 40);
         land(two + "snow 0 0 10 1;", -8, 38);
