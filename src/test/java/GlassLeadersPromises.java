@@ -835,6 +835,7 @@ public final class GlassLeadersPromises {
         due("never sure", of(line + "snow 0 0 9 8;hours 10;").needs(), -1);
         due("not by 12", of(line, "go if 1=2;").needs(), -1);
         due("not by 12, by the law", of(line, "go if stores>11;").needs(), -1);
+        due("by 12", of(line + "store 3;", "go if stores>10;").needs(), 12);
         due("by a hut", of("place;place hut;place end;way 0 1;way 1 2;person 0;wants 0 2 9;").needs(), 1);
         due("there already", of("place end;person 0;").needs(), 1);
         GlassLeaders g = of(line);
@@ -905,6 +906,7 @@ public final class GlassLeadersPromises {
             far.plan(i, 1);
             far.turn(i, 0);
         }
+        far.plan(23, 0);
         far.clear();
         far.row(0);
         due("otherwise", far.run(0), 24);
