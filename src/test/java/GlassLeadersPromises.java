@@ -407,6 +407,15 @@ public final class GlassLeadersPromises {
         g.turn(1, 0);
         g.kind(0, 0);
         due("after a turn", g.value(1, 0, 0, 3), 0);
+        GlassLeaders d = of(DARE);
+        due("before days", d.all(), 6);
+        d.days(2);
+        due("after days", d.all(), 16);
+        d.days(1);
+        d.kind(0, 5);
+        due("before a plan", d.all(), 6);
+        d.plan(0, 1);
+        due("after a plan", d.all(), 10);
         GlassLeaders s = of(SNOWED);
         due("by chances", s.value(0, 0, 0, 12), 1968);
         due("by chances, next hour", s.value(0, 0, 1, 11), 108);
