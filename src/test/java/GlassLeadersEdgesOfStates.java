@@ -272,7 +272,8 @@ public final class GlassLeadersEdgesOfStates {
         g.run(1);
         Edge.due("stores before", g.was(1, 1), 1);
         Edge.due("stores there", g.was(2, 1), 2);
-        Edge.due("a store of one", Edge.of("place hut;person 0;wants 0 0 5;lost 9;store 1;hours 24;").value(0, 0, 0, 1), 5);
+        GlassLeaders one = Edge.of("place hut;person 0;wants 0 0 5;lost 9;store 1;hours 24;");
+        Edge.due("a store of one", one.value(0, 0, 0, 1), 5);
     }
 
     static void promise16_ofAWayClosedForSureTheyStay() {
@@ -543,7 +544,8 @@ public final class GlassLeadersEdgesOfStates {
     }
 
     static void promise21_ofTwentyFourHours() {
-        GlassLeaders g = Edge.of("place hut;place hut;way 0 1;person 0;wants 0 1 9;hours 24;store 7;", "go if hour=23;");
+        GlassLeaders g = Edge.of("place hut;place hut;way 0 1;person 0;wants 0 1 9;hours 24;store 7;",
+                "go if hour=23;");
         Edge.due("hours", g.run(0), 24);
         Edge.due("the last place but one", g.was(23, 0), 0);
         Edge.due("the last move", g.was(23, 2), 1);

@@ -34,6 +34,12 @@ public final class GlassLeadersEdgesOfTexts {
         Edge.due("[" + condition + "]", g.next(0, 0, 5), due ? 3 : 2);
     }
 
+    /** All of an object with an empty tape but for its fault, which stands first. */
+    private static String butFault(GlassLeaders g) {
+        String all = Edge.everything(g);
+        return all.substring(all.indexOf("ended"));
+    }
+
     // ---------------------------------------------------------------------------- 1: a new object
 
     static void promise01_noLand() {
@@ -381,7 +387,8 @@ public final class GlassLeadersEdgesOfTexts {
     }
 
     static void promise03_theLastCountsOfHoursStoreLostAndStart() {
-        GlassLeaders g = Edge.of("place;place;person 0;hours 24;store 2;lost 9;start 1;hours 1;store 1;lost 0;start 0;");
+        GlassLeaders g = Edge.of("place;place;person 0;hours 24;store 2;lost 9;start 1;"
+                + "hours 1;store 1;lost 0;start 0;");
         Edge.due("hours", g.told(3), 1);
         Edge.due("store", g.told(4), 1);
         Edge.due("lost", g.told(5), 0);
@@ -505,9 +512,7 @@ public final class GlassLeadersEdgesOfTexts {
             GlassLeaders g = Edge.emptied(Edge.full());
             Edge.due("a land with a fault", Edge.land(g, land) < 0 ? 1 : 0, 1);
             GlassLeaders twin = Edge.emptied(Edge.full());
-            String all = Edge.everything(g);
-            String due = Edge.everything(twin);
-            Edge.due("all but tape and fault", all.substring(all.indexOf("ended")), due.substring(due.indexOf("ended")));
+            Edge.due("all but tape and fault", butFault(g), butFault(twin));
         }
     }
 
@@ -701,7 +706,8 @@ public final class GlassLeadersEdgesOfTexts {
     }
 
     static void promise04_aWordOfThePresentState() {
-        String land = "place;place hut;place;way 0 1;way 1 2;person 0;person 0;hours 9;store 6;snow 1 3 3 5;snow 0 3 3 16;";
+        String land = "place;place hut;place;way 0 1;way 1 2;person 0;person 0;hours 9;store 6;"
+                + "snow 1 3 3 5;snow 0 3 3 16;";
         Edge.due("hour 0", Edge.of(land, "go if hour=0;").next(0, 0, 6), 3);
         Edge.due("the last hour", Edge.of(land, "go if hour=8;").next(0, 8, 6), 3);
         Edge.due("all hours left", Edge.of(land, "go if left=9;").next(0, 0, 6), 3);
@@ -756,9 +762,7 @@ public final class GlassLeadersEdgesOfTexts {
             Edge.due("a law with a fault", Edge.law(g, law) < 0 ? 1 : 0, 1);
             Edge.due("bytes", g.count(2), 0);
             GlassLeaders twin = Edge.emptied(Edge.full());
-            String all = Edge.everything(g);
-            String due = Edge.everything(twin);
-            Edge.due("all but tape and fault", all.substring(all.indexOf("ended")), due.substring(due.indexOf("ended")));
+            Edge.due("all but tape and fault", butFault(g), butFault(twin));
         }
     }
 
@@ -766,9 +770,7 @@ public final class GlassLeadersEdgesOfTexts {
         GlassLeaders g = Edge.emptied(Edge.full());
         Edge.due("law", Edge.law(g, "") + Edge.law(g, "rest if hour<9; go if stores>0;"), 2);
         GlassLeaders twin = Edge.emptied(Edge.full());
-        String all = Edge.everything(g);
-        String due = Edge.everything(twin);
-        Edge.due("all but tape and fault", all.substring(all.indexOf("ended")), due.substring(due.indexOf("ended")));
+        Edge.due("all but tape and fault", butFault(g), butFault(twin));
     }
 
     static void promise04_anotherLawIsKeptToAtOnce() {
