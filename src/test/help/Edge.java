@@ -226,21 +226,26 @@ final class Edge {
         for (int i = 0; i <= 8; i++) {
             b.append(' ').append(g.told(i));
         }
-        b.append(" was");
-        for (int hour = 0; hour <= 24 && hour <= g.told(3) + 1; hour++) {
-            b.append(' ').append(g.was(hour, 0)).append(g.was(hour, 1)).append(g.was(hour, 2));
-        }
+        journey(g, b);
         if (g.told(0) > 0) {
             everythingOfLand(g, b);
         }
         everythingTold(g, b);
         for (int i = g.count(1); i >= 0; i--) {
-            b.append("\non ").append(g.on()).append(" ended ").append(g.ended()).append(' ').append(g.was(1, 0));
+            b.append("\non ").append(g.on()).append(" ended ").append(g.ended());
+            journey(g, b);
             everythingTold(g, b);
         }
         int bytes = g.count(2);
         b.append("\ntape ").append(g.land(bytes)).append(' ').append(g.fault()).append(' ').append(g.told(3));
         return b.toString();
+    }
+
+    private static void journey(GlassLeaders g, StringBuilder b) {
+        b.append(" was");
+        for (int hour = 0; hour <= 24 && hour <= g.told(3) + 1; hour++) {
+            b.append(' ').append(g.was(hour, 0)).append(g.was(hour, 1)).append(g.was(hour, 2));
+        }
     }
 
     private static void everythingOfLand(GlassLeaders g, StringBuilder b) {

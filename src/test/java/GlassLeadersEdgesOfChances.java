@@ -205,7 +205,11 @@ public final class GlassLeadersEdgesOfChances {
 
     static void promise40_noneHolds() {
         Edge.due("of two", Edge.of(Edge.SMALL).holds(), -1);
-        Edge.due("of one", Edge.of(ROAD).holds(), -1);
+        GlassLeaders spends = Edge.of(ROAD);
+        Edge.due("of one", spends.holds(), -1);
+        spends.kind(0, 3);
+        Edge.due("of one with himself", spends.holds(), -1);
+        Edge.due("of five", Edge.of(PACTS).holds(), -1);
     }
 
     static void promise40_itIsWorthMoreToEachOfBoth() {
@@ -308,6 +312,29 @@ public final class GlassLeadersEdgesOfChances {
         Edge.due("the last is of the same", Edge.of(two + "1 9;").mind(), 0);
     }
 
+    static void promise41_withTheStoresThatCanCome() {
+        String two = "place;place;way 0 1;person 0;person 0;wants 0 1 9;hours 2;";
+        Edge.due("eleven in hour 1", Edge.of(two, "go if stores=11;").mind(), 2);
+        Edge.due("ten do not come", Edge.of(two, "go if stores=10;").mind(), 0);
+        Edge.due("two of three", Edge.of(two + "store 3;", "go if stores=2;").mind(), 2);
+        Edge.due("a hut is full", Edge.of("place hut;place;way 0 1;person 0;person 0;wants 0 1 9;hours 2;store 5;",
+                "go if stores<5;").mind(), 0);
+    }
+
+    static void promise41_otherQuestionsDoNotMatter() {
+        String fork = "place;place;place end;place end;way 0 1;way 1 2;way 1 3;person 0;person 0;"
+                + "wants 0 2 9;wants 1 3 9;hours 4;";
+        GlassLeaders g = Edge.of(fork, "go if place=1;");
+        g.ever(1, 0, 12);
+        Edge.due("the fork was asked for, but can't come", g.mind(), 0);
+        GlassLeaders dare = Edge.of(Edge.DARE);
+        dare.all();
+        dare.vote();
+        Edge.due("a vote was tried out", dare.mind(), 2);
+        Edge.due("the first and the last place of twelve", Edge.of("place;" + Edge.times(10, "place;")
+                + "place hut;way 0 11;person 0;person 0;wants 1 11 9;hours 24;", "go if hour=0;").mind(), 1);
+    }
+
     static void promise41_whatHasEndedIsNotAsked() {
         Edge.due("at the end and without stores", Edge.of("place;place end;way 0 1;person 0;person 0;wants 0 1 9;"
                 + "hours 3;store 1;", "rest if 1=2;").mind(), 0);
@@ -360,6 +387,17 @@ public final class GlassLeadersEdgesOfChances {
         Edge.due("there at 1 of ten", ten.arrives(1, 0), 1L << 36);
         Edge.due("late at ten", ten.arrives(10, 2), 576650390625L);
         Edge.due("there at ten", ten.arrives(10, 0), 38443359375L);
+    }
+
+    static void promise42_otherQuestionsDoNotMatter() {
+        GlassLeaders g = Edge.of(Edge.DARE);
+        g.all();
+        Edge.due("alone he would go", g.alone(0), 8);
+        Edge.due("they rest", g.arrives(2, 2), 1);
+        Edge.due("alone again", g.alone(0), 8);
+        Edge.due("at 0 all the time", g.visits(0), 3);
+        Edge.due("alone once more", g.alone(0), 8);
+        Edge.due("never at 1", g.visits(1), 0);
     }
 
     // ---------------------------------------------------------------------------- 43: visits
@@ -439,6 +477,17 @@ public final class GlassLeadersEdgesOfChances {
         Edge.due("times scale", Edge.of(Edge.DARE + "way 2 3;snow 3 1 1 1;", "go if not to=2;").without(0, 0), -80);
     }
 
+    static void promise44_theRuleIsThereAgainThen() {
+        GlassLeaders g = Edge.of(Edge.SMALL, "go if 1=2;");
+        Edge.due("without", g.without(0, 0), 19);
+        Edge.due("moves", g.next(0, 0, 3), 1);
+        Edge.due("alone", g.alone(0), -10);
+        Edge.due("ever", g.ever(0, 0, 3), -1);
+        Edge.due("without again", g.without(0, 0), 19);
+        Edge.due("stores needed", g.needs(), -1);
+        Edge.due("as it is", g.value(0, 0, 0, 3), -10);
+    }
+
     static void promise44_theLawStaysAsItIs() {
         GlassLeaders g = Edge.full();
         g.without(0, -1);
@@ -467,10 +516,36 @@ public final class GlassLeadersEdgesOfChances {
         GlassLeaders g = Edge.of(Edge.DARE);
         g.days(12);
         Edge.due("the other one leads no hour below hours", g.swap(0, 1), -1);
+        Edge.due("of 24 hours", Edge.of(SHARED).swap(0, 1), -1);
+    }
+
+    static void promise45_hoursOfOthersAreNotChanged() {
+        GlassLeaders g = Edge.of(SHARED + "person 0;", "go if hour=2 and leader<2;");
+        Edge.due("2 leads hour 2", g.swap(0, 1), -1);
+        Edge.due("2 and 1", g.swap(2, 1), -1);
+        GlassLeaders three = Edge.of(SHARED + "person 0;wants 2 1 5;", "go if hour=2 and leader<2;");
+        Edge.due("0 and 1 can't", three.swap(0, 1), -1);
+        Edge.due("2 and 1 can", three.swap(2, 1), 201);
+        Edge.due("0 and 2 can", three.swap(0, 2), 2);
+    }
+
+    static void promise45_whatFollowsIsAsItIs() {
+        String line = "place;place;place;place end;way 0 1;way 1 2;way 2 3;person 1;person 1;hours 3;"
+                + "wants 0 0 5;wants 1 0 5;";
+        String law = "go if hour=0 and leader=1 or hour=1 and leader=0 or place=2;";
+        Edge.due("the end as good as the beginning", Edge.of(line + "wants 0 3 5;wants 1 3 5;", law).swap(0, 1), -1);
+        Edge.due("the end better", Edge.of(line + "wants 0 3 6;wants 1 3 6;", law).swap(0, 1), 1);
+        Edge.due("the other way round", Edge.of(line + "wants 0 3 6;wants 1 3 6;", law).swap(1, 0), 100);
     }
 
     static void promise45_bothGainMoreThanNothing() {
         Edge.due("both gain five", Edge.of(Edge.DARE).swap(0, 1), 1);
+        Edge.due("the other way round", Edge.of(Edge.DARE).swap(1, 0), 100);
+        String law = "go if hour=4 and leader=1;rest if not [hour=4 and leader=1];";
+        Edge.due("one to each", Edge.of(SHARED + "wants 0 1 1;wants 1 1 1;", law).swap(0, 1), 401);
+        Edge.due("nothing to 0", Edge.of(SHARED + "wants 0 1 0;", law).swap(0, 1), -1);
+        Edge.due("nothing to 1", Edge.of(SHARED + "wants 1 1 0;", law).swap(0, 1), -1);
+        Edge.due("nothing to 1, who is first", Edge.of(SHARED + "wants 1 1 0;", law).swap(1, 0), -1);
         Edge.due("one by one", Edge.of(Edge.DARE + "wants 1 0 7;").swap(0, 1), 1);
         Edge.due("one not", Edge.of(Edge.DARE + "wants 1 0 8;").swap(0, 1), -1);
         Edge.due("the other one not", Edge.of(Edge.DARE + "wants 0 0 8;").swap(0, 1), -1);
@@ -511,6 +586,8 @@ public final class GlassLeadersEdgesOfChances {
         Edge.due("two each of four", Edge.of(two + "person 0;wants 2 2 5;person 0;wants 3 1 1;").vote(), 10);
         Edge.due("rest is the first of three", Edge.of(two + "person 0;wants 2 0 2;").vote(), 2);
         Edge.due("rest is not lawful", Edge.of(two, GOING).vote(), 9);
+        Edge.due("the last way of 24", Edge.of("place;place;place;person 0;" + Edge.times(23, "way 0 1;")
+                + "way 0 2;wants 0 2 9;hours 1;").vote(), 9);
     }
 
     static void promise46_whateverTheirKinds() {
@@ -717,6 +794,26 @@ public final class GlassLeadersEdgesOfChances {
         g.on();
         Edge.due("none", g.ended(), -1);
         Edge.due("nowhere", g.was(0, 0), -1);
+    }
+
+    static void promise49_aJourneyOfTwentyFourHoursIsAsThen() {
+        GlassLeaders g = Edge.of("place hut;place;way 0 1;person 0;hours 24;", GOING);
+        Edge.due("hours", g.run(0), 24);
+        g.image();
+        Edge.ruled(g, "go if hour=23;");
+        g.kind(0, 5);
+        g.plan(23, 1);
+        Edge.due("another journey", g.run(0), 24);
+        Edge.due("its last place", g.was(24, 0), 1);
+        g.on();
+        int[][] due = {{0, 12, 1}, {1, 11, 1}};
+        for (int hour = 0; hour < 24; hour++) {
+            for (int what = 0; what <= 2; what++) {
+                Edge.due("was " + hour + " " + what, g.was(hour, what), due[hour % 2][what]);
+            }
+        }
+        Edge.due("the last place", g.was(24, 0), 0);
+        Edge.due("the last stores", g.was(24, 1), 12);
     }
 
     // ---------------------------------------------------------------------------- 50: status

@@ -221,7 +221,18 @@ public final class GlassLeadersEdgesOfHours {
         Edge.due("not in the last hour", withRows(chance + "hours 1;", 0).proof(0), 0);
     }
 
+    static void promise26_storesAreGoneOnTheWay() {
+        String road = "place;place end;way 0 1;person 0;wants 0 1 9;lost 9;hours 5;store ";
+        Edge.due("two stores: he must go in hour 1", Edge.of(road + "2;").proof(0), 1);
+        Edge.due("three stores", Edge.of(road + "3;").proof(0), 2);
+        Edge.due("gone in time", withRows(road + "3;", 0, 0, 1).proof(0), -1);
+    }
+
     static void promise26_questionsChangeNothing() {
+        GlassLeaders asked = Edge.of(Edge.DARE);
+        Edge.due("value before", asked.value(0, 0, 0, 12), 3);
+        Edge.due("proof", asked.proof(0), 0);
+        Edge.due("value behind", asked.value(0, 0, 0, 12), 3);
         GlassLeaders g = Edge.full();
         g.proof(0);
         g.proof(1);
@@ -286,6 +297,11 @@ public final class GlassLeadersEdgesOfHours {
     static void promise28_noneIfNoneGains() {
         Edge.due("of two", Edge.of(Edge.SMALL).give(), -1);
         Edge.due("there is no other", Edge.of("place;place;way 0 1;person 0;wants 0 1 5;").give(), -1);
+        GlassLeaders spends = Edge.of("place;place;way 0 1;person 0;wants 0 1 5;");
+        spends.kind(0, 3);
+        Edge.due("nor for one who rests it away", spends.give(), -1);
+        GlassLeaders five = Edge.of("place;place;way 0 1;" + Edge.times(5, "person 0;") + "hours 24;");
+        Edge.due("of five", five.give(), -1);
     }
 
     static void promise28_bothMustGain() {
@@ -646,6 +662,24 @@ public final class GlassLeadersEdgesOfHours {
     static void promise34_otherSnowDoesNotMatter() {
         Edge.due("fifteen of sixteen", Edge.of(LINE + "snow 0 0 9 15;").ever(0, 0, 12), 2);
         Edge.due("who needs it open goes", Edge.of(LINE + "hours 2;snow 0 0 1 15;snow 1 0 1 15;").ever(0, 0, 12), 2);
+    }
+
+    static void promise34_whereItMayCloseTheyDoNotStay() {
+        GlassLeaders g = Edge.of("place;place;place end;way 0 1;way 0 2;person 0;snow 0 0 0 8;",
+                "rest if 1=2;go if hour=0 and to=1 or hour=1 and to=2;");
+        Edge.due("from 1 there is no way any more", g.ever(0, 0, 12), -1);
+        GlassLeaders sure = Edge.of("place;place;place end;way 0 1;way 0 2;person 0;snow 0 0 0 16;",
+                "rest if 1=2;go if hour=0 and to=1 or hour=1 and to=2;");
+        Edge.due("where it closes for sure they do", sure.ever(0, 0, 12), 2);
+    }
+
+    static void promise34_theFirstPlaceMayBeTheEnd() {
+        GlassLeaders g = Edge.of("place end;place;way 0 1;person 0;start 1;");
+        Edge.due("there", g.ever(0, 0, 12), 0);
+        Edge.due("one hour", g.ever(1, 0, 12), 1);
+        GlassLeaders last = Edge.of(Edge.times(11, "place;") + "place end;person 0;way 0 11;");
+        Edge.due("the last place", last.ever(0, 0, 12), 1);
+        Edge.due("from the last place but one", last.ever(10, 0, 12), -1);
     }
 
     static void promise34_neverIfNoRowIsLawful() {

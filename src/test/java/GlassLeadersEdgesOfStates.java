@@ -146,6 +146,29 @@ public final class GlassLeadersEdgesOfStates {
         Edge.due("by the law as leader, not as the other one", g.takes(0, 0, 12), 1);
     }
 
+    static void promise15_ownAndBlindOfTheFirstOfFive() {
+        GlassLeaders g = Edge.of(Edge.DARE + Edge.times(3, "person 0;"));
+        Edge.due("ahead", g.takes(0, 0, 12), 0);
+        g.kind(0, 1);
+        Edge.due("own", g.takes(0, 0, 12), 1);
+        GlassLeaders fear = Edge.of(Edge.DARE + "wants 0 0 4;wants 0 1 4;wants 1 3 12;" + Edge.times(3, "person 0;"));
+        Edge.due("ahead, without fear", fear.takes(0, 0, 12), 1);
+        fear.kind(0, 4);
+        Edge.due("blind", fear.takes(0, 0, 12), 0);
+    }
+
+    static void promise15_kindAsksForWhatComesNotForDreams() {
+        GlassLeaders g = Edge.of(Edge.DARE + "wants 1 2 5;wants 1 3 4;person 0;");
+        g.turn(0, 2);
+        g.kind(2, 2);
+        g.kind(0, 1);
+        Edge.due("six for resting, five for going on to 2", g.takes(0, 0, 12), 0);
+        GlassLeaders five = Edge.of("place;place;place;way 0 1;way 0 2;" + Edge.times(5, "person 0;")
+                + "hours 1;wants 0 1 9;wants 1 2 10;");
+        five.kind(0, 2);
+        Edge.due("ten to another of five is more than nine", five.takes(0, 0, 12), 2);
+    }
+
     static void promise15_kindForAllTogether() {
         String land = "place;place;place;way 0 1;way 0 2;person 0;person 0;person 0;hours 1;wants 0 1 9;";
         GlassLeaders more = Edge.of(land + "wants 1 2 5;wants 2 2 5;");
@@ -357,6 +380,8 @@ public final class GlassLeadersEdgesOfStates {
         Edge.due("139 less two hours of 19", g.all(), 139 - 38);
         Edge.due("times scale", Edge.of(ROAD + "hours 1;person 2;snow 0 0 0 8;").all(), 8 * 8 - 8 - 16 * 2);
         Edge.due("with all the store", Edge.of("place;person 0;lost 9;hours 3;store 4;").all(), 0);
+        String five = "place end;" + Edge.times(5, "person 0;");
+        Edge.due("five at an end", Edge.of(five + "wants 0 0 7;wants 4 0 1;").all(), 8);
     }
 
     // ---------------------------------------------------------------------------- 19: alone
@@ -387,6 +412,12 @@ public final class GlassLeadersEdgesOfStates {
         GlassLeaders g = Edge.of(Edge.DARE, "go if leader=0;");
         Edge.due("who may go", g.alone(0), 8);
         Edge.due("who may not", g.alone(1), 3);
+    }
+
+    static void promise19_eachHourByTheNextOneAlone() {
+        GlassLeaders g = Edge.of("place hut;place hut;place end;way 0 1;way 0 2;person 0;start 1;"
+                + "wants 0 1 5;wants 0 2 9;hours 3;", "go if hour=1;");
+        Edge.due("going to 0 in hour 1 comes too late for 2", g.alone(0), 5);
     }
 
     static void promise19_alreadyEnded() {

@@ -417,6 +417,10 @@ public final class GlassLeadersEdgesOfTexts {
 
     static void promise03_wordsAreSmallLettersAsManyAsStandThere() {
         fails("placehut;person 0;", 1, 0);
+        fails("placez;person 0;", 1, 0);
+        fails("placea;person 0;", 1, 0);
+        fails("zlace;person 0;", 1, 0);
+        fails("placd;person 0;", 1, 0);
         fails("place;persona 0;", 1, 6);
         fails("place;perso 0;", 1, 6);
         fails("Place;person 0;", 1, 0);
@@ -466,6 +470,64 @@ public final class GlassLeadersEdgesOfTexts {
         Edge.due("snowy hours", g.told(7), 0);
         Edge.due("moves", g.next(1, 0, 12), 3);
         Edge.due("all", Edge.everything(g), Edge.everything(fresh));
+    }
+
+    static void promise03_nothingIsLeftOfALandBeforeTheLast() {
+        String large = Edge.times(2, "place hut;") + Edge.times(2, "person 9;")
+                + "way 0 1;snow 0 0 9 16;wants 0 0 99;hours 24;store 5;lost 9;start 1;";
+        GlassLeaders g = Edge.of(large);
+        GlassLeaders h = Edge.of(large);
+        Edge.land(g, "place;place;person 0;way 0 1;");
+        Edge.land(h, large + "x");
+        for (GlassLeaders again : new GlassLeaders[] {g, h}) {
+            Edge.land(again, "place;place;person 0;way 0 1;");
+            Edge.due("snow", again.snow(0, 0), 0);
+            Edge.due("all", Edge.everything(again), Edge.everything(Edge.of("place;place;person 0;way 0 1;")));
+        }
+    }
+
+    static void promise03_nothingWorkedOutForTheOldLandIsLeft() {
+        GlassLeaders g = Edge.of("place;place;place;way 0 1;way 0 2;person 0;wants 0 1 5;hours 3;");
+        Edge.due("alone", g.alone(0), 5);
+        Edge.due("all", g.all(), 5);
+        Edge.land(g, "place;place;place;way 1 2;way 0 2;person 0;wants 0 1 6;hours 3;start 2;");
+        Edge.due("alone in another land", g.alone(0), 6);
+        Edge.due("all in another land", g.all(), 6);
+        Edge.due("stores needed", g.needs(), -1);
+    }
+
+    /** As much of all as there can be, with all the leaders there can be. */
+    private static GlassLeaders most() {
+        StringBuilder land = new StringBuilder(Edge.times(11, "place hut;"));
+        land.append("place end;").append(Edge.times(5, "person 9;")).append(Edge.times(13, "way 0 1;"));
+        for (int place = 0; place < 11; place++) {
+            land.append("way ").append(place).append(' ').append(place + 1).append(';');
+        }
+        land.append("snow 23 14 23 8;snow 0 14 23 16;wants 4 11 99;wants 0 11 99;hours 24;lost 99;");
+        Edge.due("bytes", land.length() <= 600 ? 1 : 0, 1);
+        return Edge.of(land.toString(), Edge.times(10, "go if [[[[[[to>place]]]]]];"));
+    }
+
+    static void promise03_asMuchAsCanBeToldIsAsked() {
+        GlassLeaders g = most();
+        Edge.due("the shortest way, by the glass", g.ever(0, 0, 12), 11);
+        Edge.due("not from where it is too late", g.ever(10, 24, 12), -1);
+        Edge.due("stores needed", g.needs(), 1);
+        Edge.due("who wants to be there goes alone", g.alone(4), 0);
+        Edge.due("nobody gains by an hour", g.give(), -1);
+        Edge.due("nor by a pact", g.holds(), -1);
+        Edge.due("nor by a change", g.swap(4, 0), -1);
+        Edge.due("in the last hour only who wants the end would go", g.mind(), 24);
+        Edge.due("there for sure", g.there(0), 1L << 40);
+        Edge.due("just at hour 11", g.arrives(11, 0), 1L << 40);
+        Edge.due("not at hour 24", g.arrives(24, 2), 0);
+        Edge.due("the end", g.visits(11), 1L << 40);
+        Edge.due("all together", g.all(), (2 * 99 - 5 * 11 * 9) * (1L << 40));
+        Edge.due("voted on", g.vote(), g.all());
+        Edge.due("a rule less says as much", g.without(9, -1), 0);
+        Edge.due("rounds", g.order(-1), 1234);
+        Edge.due("turns", g.length(-1), 1);
+        Edge.due("journey", g.run(1), 11);
     }
 
     static void promise03_kindsAreAsAtFirst() {
@@ -715,7 +777,9 @@ public final class GlassLeadersEdgesOfTexts {
         Edge.due("one store", Edge.of(land, "go if stores=1;").next(0, 0, 1), 3);
         Edge.due("all stores", Edge.of(land, "go if stores=6;").next(0, 0, 6), 3);
         Edge.due("at a hut", Edge.of(land, "go if hut=1;").next(1, 0, 6), 7);
-        Edge.due("not at one", Edge.of(land, "go if hut=0;").next(1, 0, 6), 1);
+        Edge.due("not at a hut", Edge.of(land, "go if hut=1;").next(0, 0, 6), 1);
+        Edge.due("elsewhere", Edge.of(land, "go if hut=0;").next(0, 0, 6), 3);
+        Edge.due("not elsewhere", Edge.of(land, "go if hut=0;").next(1, 0, 6), 1);
         Edge.due("who leads", Edge.of(land, "go if leader=1;").next(0, 1, 6), 3);
         Edge.due("who does not", Edge.of(land, "go if leader=1;").next(0, 2, 6), 1);
         Edge.due("the place", Edge.of(land, "go if place=2;").next(2, 0, 6), 5);
@@ -725,6 +789,15 @@ public final class GlassLeadersEdgesOfTexts {
         Edge.due("snow that closes for sure", Edge.of(land, "go if snow=16;").next(1, 3, 6), 3);
         Edge.due("no snow an hour earlier", Edge.of(land, "go if snow=0;").next(1, 2, 6), 7);
         Edge.due("no snow of resting", Edge.of(land, "rest if snow=0;").next(1, 3, 6), 7);
+    }
+
+    static void promise04_aWordIsOfTheStateThatIsAskedFor() {
+        GlassLeaders g = Edge.of("place;place hut;place;way 0 1;way 1 2;person 0;snow 0 3 3 16;snow 1 3 3 5;",
+                "rest if snow=0 and to=place;go if snow>0 and not to=place;");
+        Edge.due("all moves of a state of snow", g.next(1, 3, 6), 7);
+        Edge.due("all moves of the next one", g.next(2, 3, 6), 5);
+        Edge.due("rest alone an hour later", g.next(1, 4, 6), 1);
+        Edge.due("all moves again", g.next(1, 3, 6), 7);
     }
 
     static void promise04_aRuleIsRestOrGoIfACondition() {
@@ -781,6 +854,18 @@ public final class GlassLeadersEdgesOfTexts {
         Edge.due("behind", g.value(0, 0, 0, 3), -10);
         Edge.ruled(g, "");
         Edge.due("without again", g.value(0, 0, 0, 3), 9);
+    }
+
+    static void promise04_nothingOfAnOldLawIsLeft() {
+        GlassLeaders g = Edge.of(Edge.SMALL, "go if 1+1+1+1+1=1+1+1+1+1*1*1*1;rest if 1=2;go if 1=2;");
+        Edge.ruled(g, "go if 1=2;");
+        Edge.ruled(g, "go if 1=1;");
+        Edge.due("moves", g.next(0, 0, 3), 7);
+        Edge.due("rules", g.told(8), 1);
+        Edge.law(g, "rest if 1=2;go if 1=2;x");
+        Edge.due("moves behind a fault", g.next(0, 0, 3), 7);
+        Edge.ruled(g, "");
+        Edge.due("moves without a law", g.next(0, 0, 3), 7);
     }
 
     static void promise04_aLawMayBeToldWithoutALand() {
