@@ -800,11 +800,12 @@ public final class GlassLeadersEdgesOfChances {
         GlassLeaders g = Edge.of("place hut;place;way 0 1;person 0;hours 24;", GOING);
         Edge.due("hours", g.run(0), 24);
         g.image();
-        Edge.ruled(g, "go if hour=23;");
+        Edge.ruled(g, "go if hour=22;");
         g.kind(0, 5);
-        g.plan(23, 1);
+        g.plan(22, 1);
         Edge.due("another journey", g.run(0), 24);
         Edge.due("its last place", g.was(24, 0), 1);
+        Edge.due("its last move", g.was(23, 2), 0);
         g.on();
         int[][] due = {{0, 12, 1}, {1, 11, 1}};
         for (int hour = 0; hour < 24; hour++) {

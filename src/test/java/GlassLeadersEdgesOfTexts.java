@@ -508,6 +508,21 @@ public final class GlassLeadersEdgesOfTexts {
         return Edge.of(land.toString(), Edge.times(10, "go if [[[[[[to>place]]]]]];"));
     }
 
+    static void promise03_asMuchAsCanBeToldWithTheEndFirst() {
+        StringBuilder land = new StringBuilder("place end;" + Edge.times(11, "place;"));
+        land.append(Edge.times(5, "person 9;")).append(Edge.times(13, "way 10 11;"));
+        for (int place = 0; place < 11; place++) {
+            land.append("way ").append(place).append(' ').append(place + 1).append(';');
+        }
+        land.append("snow 23 0 8 16;snow 23 23 23 16;wants 4 0 99;hours 24;start 11;");
+        GlassLeaders g = Edge.of(land.toString());
+        Edge.due("by another of all the ways from 11 to 10", g.ever(11, 0, 12), 11);
+        Edge.due("who wants to be there goes alone", g.alone(4), 0);
+        Edge.due("voted on: all want it soon", g.vote(), (99 - 5 * 11 * 9) * (1L << 40));
+        Edge.due("stores needed: by eleven 0 is as well off to rest and be lost", g.needs(), 12);
+        Edge.due("there for sure", g.there(0), 1L << 40);
+    }
+
     static void promise03_asMuchAsCanBeToldIsAsked() {
         GlassLeaders g = most();
         Edge.due("the shortest way, by the glass", g.ever(0, 0, 12), 11);
