@@ -605,6 +605,11 @@ public final class GlassLeadersEdgesOfChances {
         Edge.due("who leads may", Edge.of(two, "go if leader=0;").vote(), 10);
     }
 
+    static void promise46_forcedRest() {
+        String two = "place;place;way 0 1;hours 1;person 0;person 0;wants 0 1 5;wants 1 1 5;";
+        Edge.due("no other move", Edge.of(two, "go if 1=2;rest if 1=2;").vote(), 0);
+    }
+
     static void promise46_allBeingVotedOnFromThenOn() {
         GlassLeaders g = Edge.of(Edge.DARE + "person 0;wants 2 3 8;");
         Edge.due("1 is outvoted in hour 1, so all go", g.vote(), 24);
@@ -840,6 +845,14 @@ public final class GlassLeadersEdgesOfChances {
             Edge.due("IllegalState", g.status(3), 0);
             Edge.due("IllegalState without a land", bare.status(3), i);
         }
+    }
+
+    static void promise50_theLastOfFiveHundredAndTwelveCalls() {
+        GlassLeaders g = new GlassLeaders();
+        for (int i = 0; i < 511; i++) {
+            Edge.reason(g, x -> x.told(-1));
+        }
+        Edge.due("status", g.status(2), 511);
     }
 
     static void promise50_noImageKeepsIt() {

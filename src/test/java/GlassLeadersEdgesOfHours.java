@@ -212,6 +212,13 @@ public final class GlassLeadersEdgesOfHours {
         Edge.due("whoever is told", g.proof(0), -1);
     }
 
+    static void promise26_forcedRestIsAsGoodAsAny() {
+        GlassLeaders g = withRows(Edge.of(Edge.SMALL, "go if hour=1;rest if 1=2;"), 1, 1);
+        Edge.due("forced in hour 0, gone in hour 1", g.proof(0), -1);
+        g.clear();
+        Edge.due("resting in hour 1", g.proof(0), 1);
+    }
+
     static void promise26_onTheWayNoneIsClosed() {
         String line = "place;place;place end;way 0 1;way 1 2;person 0;wants 0 2 9;hours 3;snow 0 0 0 16;";
         Edge.due("closed for sure, but not on the way", withRows(line, 1, 2).proof(0), -1);
@@ -563,6 +570,12 @@ public final class GlassLeadersEdgesOfHours {
         Edge.due("the last hour", g.force(0, 2, 3), -1);
         Edge.due("the last store", g.force(0, 1, 1), -1);
         Edge.due("the last but one", g.force(0, 1, 2), 0);
+    }
+
+    static void promise33_forcedRestIsOneOfThem() {
+        GlassLeaders g = Edge.of(Edge.SMALL, "go if 1=2;rest if 1=2;");
+        Edge.due("forced, and forced again", g.force(0, 0, 3), 0);
+        Edge.due("forced, then two moves", Edge.of(Edge.SMALL, "go if hour>0;rest if hour>0;").force(0, 0, 3), -1);
     }
 
     static void promise33_theFirstOfMore() {

@@ -182,13 +182,13 @@ public final class GlassLeadersEdgesOfStates {
     }
 
     static void promise15_spendRestsIfThatIsLawful() {
-        GlassLeaders g = Edge.of("place;place;place;way 0 1;way 0 2;person 0;wants 0 2 9;hours 1;lost 9;store 1;");
+        GlassLeaders g = Edge.of("place;place;place;way 0 1;way 0 2;person 0;wants 0 2 9;hours 1;");
         g.kind(0, 3);
-        Edge.due("rest", g.takes(0, 0, 1), 0);
+        Edge.due("rest", g.takes(0, 0, 12), 0);
         Edge.ruled(g, GOING);
-        Edge.due("else the first, though the second is better", g.takes(0, 0, 1), 1);
+        Edge.due("else the first, though the second is better", g.takes(0, 0, 12), 1);
         Edge.ruled(g, "rest if 1=2;go if to=2;");
-        Edge.due("the first that is lawful", g.takes(0, 0, 1), 2);
+        Edge.due("the first that is lawful", g.takes(0, 0, 12), 2);
     }
 
     static void promise15_blindFearsTheWorstInHoursOfOthers() {
@@ -228,6 +228,9 @@ public final class GlassLeadersEdgesOfStates {
         Edge.due("told, though rest is not lawful", g.takes(0, 0, 12), 2);
         g.plan(0, 0);
         Edge.due("rest told, but not lawful: the first", g.takes(0, 0, 12), 1);
+        GlassLeaders better = Edge.of("place;place;place;way 0 1;way 0 2;person 0;wants 0 2 9;hours 1;", GOING);
+        better.kind(0, 5);
+        Edge.due("the first, though the second is better", better.takes(0, 0, 12), 1);
     }
 
     static void promise15_aPlannedWayElsewhereIsNotLawful() {
