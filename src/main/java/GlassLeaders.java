@@ -60,22 +60,22 @@ public final class GlassLeaders {
     private static final int ARGUMENT = 2;
     private static final int STATE = 3;
 
-    private final Text text = new Text();
-    private final LandReader landReader = new LandReader(text);
-    private final LawReader lawReader = new LawReader(text);
-    private final Scene plain = new Scene();
-    private final Scene tried = new Scene();
-    private final Table whole = new Table(true);
-    private final Table rough = new Table(false);
-    private final Solver solver = new Solver();
-    private final Walker walker = new Walker(solver);
-    private final Party party = new Party();
-    private final Party[] images = new Party[MOST_IMAGES];
-    private final int[] refused = new int[STATE + 1];
     private Land land = new Land();
     private Land spareLand = new Land();
     private Law law = new Law();
     private Law spareLaw = new Law();
+    private final Text text = new Text();
+    private final LandReader landReader = new LandReader(text, spareLand);
+    private final LawReader lawReader = new LawReader(text, spareLaw);
+    private final Scene plain = new Scene();
+    private final Scene tried = new Scene();
+    private final Table whole = new Table(true);
+    private final Table rough = new Table(false);
+    private final Solver solver = new Solver(land, law, plain, whole);
+    private final Walker walker = new Walker(solver);
+    private final Party party = new Party();
+    private final Party[] images = new Party[MOST_IMAGES];
+    private final int[] refused = new int[STATE + 1];
     private int imageCount = 0;
     /* Whether the whole table tells how it is now: what nothing has changed is not worked again. */
     private boolean solved = false;
@@ -84,8 +84,6 @@ public final class GlassLeaders {
         for (int i = 0; i < MOST_IMAGES; i++) {
             images[i] = new Party();
         }
-        solver.land = land;
-        solver.law = law;
     }
 
     public int feed(int a, int b, int c, int d, int e) {
@@ -871,10 +869,11 @@ public final class GlassLeaders {
     /** Reads a land from the text. */
     private static final class LandReader {
         private final Text text;
-        private Land land = null;
+        private Land land;
 
-        LandReader(Text text) {
+        LandReader(Text text, Land land) {
             this.text = text;
+            this.land = land;
         }
 
         boolean read(Land into, int length) {
@@ -1165,10 +1164,11 @@ public final class GlassLeaders {
         private static final int NO_STEP = 0;
 
         private final Text text;
-        private Law law = null;
+        private Law law;
 
-        LawReader(Text text) {
+        LawReader(Text text, Law law) {
             this.text = text;
+            this.law = law;
         }
 
         boolean read(Law into, int length) {
@@ -1482,10 +1482,10 @@ public final class GlassLeaders {
 
     /** Works a scene's table from the last hour back. */
     private static final class Solver {
-        Land land = null;
-        Law law = null;
-        private Scene scene = null;
-        Table table = null;
+        Land land;
+        Law law;
+        private Scene scene;
+        Table table;
         /* Lawful moves of each leader in each state by the whole law; 0: not worked yet. */
         private final int[] masks = new int[MOST_PERSONS * DAY * LAYER];
         /* By hour and place: the stores with which they may be there, as bits. */
@@ -1503,6 +1503,13 @@ public final class GlassLeaders {
         int goSpot = 0;
         int stayShare = 0;
         int goShare = 0;
+
+        Solver(Land land, Law law, Scene scene, Table table) {
+            this.land = land;
+            this.law = law;
+            this.scene = scene;
+            this.table = table;
+        }
 
         void forgetWork() {
             Arrays.fill(masks, 0);
