@@ -1724,7 +1724,7 @@ public final class GlassLeaders {
         /* What the move that was aimed at is worth, by chances, in these columns together. */
         long expected(int columns) {
             long sum = 0;
-            int first = lowest(columns);
+            int first = Integer.bitCount((columns & -columns) - 1);
             for (int column = first; column < COLUMNS && columns >> column != 0; column++) {
                 if ((columns >> column & 1) != 0) {
                     sum += stayShare * table.cells[staySpot * COLUMNS + column]

@@ -1,9 +1,5 @@
-import java.io.ByteArrayOutputStream;
 import java.io.File;
 import java.io.IOException;
-import java.io.PrintStream;
-import java.net.URL;
-import java.net.URLClassLoader;
 import java.nio.charset.StandardCharsets;
 import java.nio.file.Files;
 import java.nio.file.Path;
@@ -12,13 +8,12 @@ import java.util.List;
 import java.util.TreeSet;
 import java.util.regex.Matcher;
 import java.util.regex.Pattern;
-import javax.tools.JavaCompiler;
-import javax.tools.ToolProvider;
 
 /** Runs the program that README.md shows: it answers as README.md says; run from the project's folder. */
 public final class GlassLeadersReadme {
     private static final Pattern PROGRAM = Pattern.compile("\n```java\n(.*?)\n```\n", Pattern.DOTALL);
     private static final Pattern ANSWERED = Pattern.compile("System\\.out\\.println\\(.*\\);(?: +// (\\S+).*)?");
+    private static final Pattern TABLED = Pattern.compile("\n\\| (GlassLeaders\\w+) \\|");
 
     private static int wrong = 0;
 
@@ -36,49 +31,40 @@ public final class GlassLeadersReadme {
         return all;
     }
 
-    /** What the program prints, line by line; nothing, if it does not stand. */
-    private static List<String> printed(String program) throws Exception {
+    /** What a command prints, line by line. */
+    private static List<String> printedBy(String... command) throws IOException, InterruptedException {
+        Process process = new ProcessBuilder(command).redirectError(ProcessBuilder.Redirect.INHERIT).start();
+        process.getOutputStream().close();
+        String printed = new String(process.getInputStream().readAllBytes(), StandardCharsets.UTF_8);
+        if (process.waitFor() != 0) {
+            say(command[0] + " fails on README.md's program");
+        }
+        return printed.lines().toList();
+    }
+
+    /** What the program prints: it is made and run as README.md says, beside the class that is tested. */
+    private static List<String> printed(String program) throws IOException, InterruptedException {
+        String classes = System.getProperty("java.class.path");
         Path folder = Files.createTempDirectory("readme");
         Path source = folder.resolve("Example.java");
         try {
             Files.writeString(source, program);
-            JavaCompiler compiler = ToolProvider.getSystemJavaCompiler();
-            if (compiler == null) {
-                say("there is no compiler");
-                return List.of();
-            }
-            if (compiler.run(null, null, null, "-cp", System.getProperty("java.class.path"),
-                    "-d", folder.toString(), source.toString()) != 0) {
-                say("README.md's program can't be compiled");
-                return List.of();
-            }
-            return run(folder);
+            printedBy("javac", "-cp", classes, "-d", folder.toString(), source.toString());
+            return printedBy("java", "-cp", folder + File.pathSeparator + classes, "Example");
         } finally {
-            removeAll(folder);
+            removeAll(folder.toFile());
         }
     }
 
-    private static List<String> run(Path folder) throws Exception {
-        PrintStream out = System.out;
-        ByteArrayOutputStream caught = new ByteArrayOutputStream();
-        try (URLClassLoader loader = new URLClassLoader(new URL[] {folder.toUri().toURL()})) {
-            System.setOut(new PrintStream(caught, true, StandardCharsets.UTF_8));
-            loader.loadClass("Example").getMethod("main", String[].class).invoke(null, (Object) new String[0]);
-        } finally {
-            System.setOut(out);
-        }
-        return caught.toString(StandardCharsets.UTF_8).lines().toList();
-    }
-
-    private static void removeAll(Path folder) {
-        File[] files = folder.toFile().listFiles();
+    private static void removeAll(File folder) {
+        File[] files = folder.listFiles();
         for (File file : files == null ? new File[0] : files) {
             file.delete();
         }
-        folder.toFile().delete();
+        folder.delete();
     }
 
-    private static void answers(String program) throws Exception {
+    private static void answers(String program) throws IOException, InterruptedException {
         List<String> due = found(ANSWERED, program);
         List<String> got = printed(program);
         if (due.size() < 20 || due.size() != got.size()) {
@@ -98,7 +84,7 @@ public final class GlassLeadersReadme {
         try (var files = Files.list(Path.of("src/test/java"))) {
             files.forEach(file -> there.add(file.getFileName().toString().replace(".java", "")));
         }
-        TreeSet<String> told = new TreeSet<>(found(Pattern.compile("\n\\| (GlassLeaders\\w+) \\|"), readme));
+        TreeSet<String> told = new TreeSet<>(found(TABLED, readme));
         if (!there.equals(told)) {
             say("README.md tells of the tests " + told + ", there are " + there);
         }
