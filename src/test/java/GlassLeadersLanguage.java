@@ -110,6 +110,7 @@ public final class GlassLeadersLanguage {
         none("6", code, "\\b(try|catch|finally|synchronized|assert|hashCode|getMessage)\\b");
         none("6", code, "throw new (?!IllegalStateException|IllegalArgumentException|IndexOutOfBoundsException"
                 + "|NoSuchElementException)[^\n]*");
+        none("7", code, "[^\n]*\\bnull\\b[^\n]*");
         none("10", code, "\"\" \\+|\\+ \"\"");
         none("13", code, "\\b(Random|Thread|nanoTime|currentTimeMillis|File|Files|getenv)\\b");
         methods(code);
